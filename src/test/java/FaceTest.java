@@ -1,0 +1,114 @@
+import java.io.IOException;
+import java.lang.reflect.Constructor;
+import java.lang.reflect.Field;
+import java.lang.reflect.Method;
+import java.lang.reflect.Modifier;
+import java.nio.file.Files;
+import java.nio.file.Path;
+import java.util.Arrays;
+import java.util.TreeSet;
+import java.util.regex.Matcher;
+import java.util.regex.Pattern;
+
+/** The public face, and the rules of LANGUAGE.md that show by reflection or in the text of the program. */
+public final class FaceTest {
+    private static final Path SOURCE = Path.of("src/main/java/ChainBench.java");
+    private static final String FACE = String.join("\n",
+        "boolean clock(boolean, boolean) throws IllegalStateException",
+        "boolean value(int) throws IllegalArgumentException",
+        "int clocks()",
+        "int device(int, int, int, int) throws IllegalArgumentException, IllegalStateException",
+        "int find() throws IllegalStateException",
+        "int found(int) throws IndexOutOfBoundsException",
+        "int look(int, int) throws IllegalArgumentException",
+        "int net(int, int, int, int) throws IllegalArgumentException, IllegalStateException",
+        "int saw(int) throws IndexOutOfBoundsException",
+        "int state()",
+        "int test() throws IllegalStateException",
+        "void core(int, int, boolean) throws IllegalArgumentException",
+        "void fault(int, int, int) throws IllegalArgumentException");
+    /** Words and signs that the rules leave no room for; each is looked for outside comments. */
+    private static final String[] RULED_OUT = {
+        "->", "::", "\\bfinally\\b", "\\bsynchronized\\b", "\\bassert\\b", "\\bvar\\b", "\\bpackage\\b",
+        "\\bSystem\\.(?!arraycopy)", "\\bMath\\.random", "\\bThread\\b", "\\bhashCode\\b", "\\btoString\\b"};
+
+    private static final Checks CHECK = new Checks("FaceTest");
+
+    public static void main(String[] args) throws IOException {
+        face();
+        hiddenMembers();
+        sourceText();
+        CHECK.end();
+    }
+
+    private static void face() {
+        TreeSet<String> face = new TreeSet<>();
+        for (Method method : ChainBench.class.getDeclaredMethods()) {
+            if (!Modifier.isPrivate(method.getModifiers())) {
+                CHECK.due(method + " is public and no more", method.getModifiers(), Modifier.PUBLIC);
+                face.add(written(method));
+            }
+        }
+        CHECK.dueText("the face", String.join("\n", face), FACE);
+        CHECK.due("the class is public and final", ChainBench.class.getModifiers(), Modifier.PUBLIC | Modifier.FINAL);
+        Constructor<?>[] constructors = ChainBench.class.getDeclaredConstructors();
+        CHECK.due("constructors", constructors.length, 1);
+        CHECK.due("the constructor is public", constructors[0].getModifiers(), Modifier.PUBLIC);
+        CHECK.due("the constructor takes nothing", constructors[0].getParameterCount(), 0);
+    }
+
+    private static String written(Method method) {
+        String text = method.getReturnType().getSimpleName() + " " + method.getName() + "(" + names(method.getParameterTypes()) + ")";
+        String thrown = names(method.getExceptionTypes());
+        return thrown.isEmpty() ? text : text + " throws " + thrown;
+    }
+
+    private static String names(Class<?>[] types) {
+        return String.join(", ", Arrays.stream(types).map(Class::getSimpleName).toList());
+    }
+
+    private static void hiddenMembers() {
+        TreeSet<String> publicNames = new TreeSet<>();
+        for (Method method : ChainBench.class.getMethods()) {
+            publicNames.add(method.getName());
+        }
+        for (Method method : ChainBench.class.getDeclaredMethods()) {
+            if (Modifier.isPrivate(method.getModifiers())) {
+                CHECK.due("private " + method.getName() + " bears a public name", publicNames.contains(method.getName()), false);
+            }
+        }
+        for (Field field : ChainBench.class.getDeclaredFields()) {
+            CHECK.due(field + " is private", Modifier.isPrivate(field.getModifiers()), true);
+            dueFinalIfStatic(field);
+        }
+        for (Class<?> inside : ChainBench.class.getDeclaredClasses()) {
+            boolean shown = Modifier.isPublic(inside.getModifiers()) || Modifier.isProtected(inside.getModifiers());
+            CHECK.due(inside + " is shown", shown, false);
+            CHECK.due(inside + " is static", Modifier.isStatic(inside.getModifiers()), true);
+            for (Field field : inside.getDeclaredFields()) {
+                dueFinalIfStatic(field);
+            }
+        }
+    }
+
+    private static void dueFinalIfStatic(Field field) {
+        boolean loose = Modifier.isStatic(field.getModifiers()) && !Modifier.isFinal(field.getModifiers());
+        CHECK.due(field + " is static and changes", loose, false);
+    }
+
+    private static void sourceText() throws IOException {
+        String text = Files.readString(SOURCE).replaceAll("(?s)/\\*.*?\\*/", "").replaceAll("//[^\n]*", "");
+        for (String ruledOut : RULED_OUT) {
+            CHECK.due("the program has " + ruledOut, Pattern.compile(ruledOut).matcher(text).find(), false);
+        }
+        Matcher imports = Pattern.compile("import ([^;]*);").matcher(text);
+        while (imports.find()) {
+            CHECK.due("import of " + imports.group(1), imports.group(1).matches("java\\.util\\.(ArrayList|List|Arrays)"), true);
+        }
+        Matcher thrown = Pattern.compile("throw ([^;]*);").matcher(text);
+        while (thrown.find()) {
+            CHECK.due("throw " + thrown.group(1),
+                thrown.group(1).matches("new (IllegalArgument|IllegalState|IndexOutOfBounds)Exception\\(\\)"), true);
+        }
+    }
+}
