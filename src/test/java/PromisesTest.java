@@ -35,6 +35,7 @@ public final class PromisesTest {
         look();
         value();
         find();
+        findGoesWithZeros();
         found();
         test();
         testRounds();
@@ -565,6 +566,18 @@ public final class PromisesTest {
                 go(x, "11111");
             }
         }
+    }
+
+    private static void findGoesWithZeros() {
+        ChainBench x = new ChainBench();
+        x.device(2, 7, 4, 0b1111);
+        go(x, "0");
+        scanI(x, "00");
+        scanD(x, "1111");
+        go(x, "100");
+        x.find();
+        CHECK.due("P10 the way to IDLE shifts one 0 in and updates", x.look(0, 2), 0b0111);
+        CHECK.due("P10 found after it", x.found(0), 7);
     }
 
     private static void found() {
