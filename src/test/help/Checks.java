@@ -1,15 +1,34 @@
 /** Compares answers with those that are due, prints each wrong one, and ends a test. */
 final class Checks {
+    static final Class<IllegalArgumentException> ARGUMENT = IllegalArgumentException.class;
+    static final Class<IllegalStateException> STATE = IllegalStateException.class;
+    static final Class<IndexOutOfBoundsException> INDEX = IndexOutOfBoundsException.class;
+    static final String NOTHING_THROWN = "nothing thrown";
+
     interface Call {
         void make();
     }
 
     private final String test;
+    private String sentence = "";
+    private int sentences;
     private int made;
     private int wrong;
 
     Checks(String test) {
         this.test = test;
+    }
+
+    /** The test of one sentence; an exception out of it, or a test that compares nothing, is wrong too. */
+    void sentence(String words, Call checks) {
+        sentences++;
+        sentence = " [" + words + "]";
+        int before = made;
+        dueText("the test ended with", thrownBy(checks), NOTHING_THROWN);
+        if (made == before + 1) {
+            report("the test compares nothing");
+        }
+        sentence = "";
     }
 
     void due(String call, long got, long want) {
@@ -38,7 +57,7 @@ final class Checks {
     static String thrownBy(Call call) {
         try {
             call.make();
-            return "nothing thrown";
+            return NOTHING_THROWN;
         } catch (RuntimeException e) {
             return e.getClass().getSimpleName();
         }
@@ -47,12 +66,13 @@ final class Checks {
     private void report(String text) {
         wrong++;
         if (wrong <= 50) {
-            System.out.println(test + ": " + text);
+            System.out.println(test + sentence + ": " + text);
         }
     }
 
     void end() {
-        System.out.println(test + ": " + made + " answers, " + wrong + " wrong");
+        String counted = sentences == 0 ? "" : sentences + " sentences, ";
+        System.out.println(test + ": " + counted + made + " answers, " + wrong + " wrong");
         if (made == 0 || wrong != 0) {
             System.exit(1);
         }

