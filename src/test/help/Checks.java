@@ -4,6 +4,8 @@ final class Checks {
     static final Class<IllegalStateException> STATE = IllegalStateException.class;
     static final Class<IndexOutOfBoundsException> INDEX = IndexOutOfBoundsException.class;
     static final String NOTHING_THROWN = "nothing thrown";
+    /** Of each sentence, so that one with many wrong answers does not hide the others. */
+    private static final int MOST_REPORTED = 20;
 
     interface Call {
         void make();
@@ -14,6 +16,7 @@ final class Checks {
     private int sentences;
     private int made;
     private int wrong;
+    private int reported;
 
     Checks(String test) {
         this.test = test;
@@ -23,6 +26,7 @@ final class Checks {
     void sentence(String words, Call checks) {
         sentences++;
         sentence = " [" + words + "]";
+        reported = 0;
         int before = made;
         dueText("the test ended with", thrownBy(checks), NOTHING_THROWN);
         if (made == before + 1) {
@@ -65,7 +69,8 @@ final class Checks {
 
     private void report(String text) {
         wrong++;
-        if (wrong <= 50) {
+        reported++;
+        if (reported <= MOST_REPORTED) {
             System.out.println(test + sentence + ": " + text);
         }
     }

@@ -1,7 +1,7 @@
 /**
  * For each sentence of the promises that names a boundary (least, most, too small, too large, empty, full, a
- * refused call), a test of its own. A refused call must leave all as it was: so a twin of the bench, without
- * that call, must answer alike afterwards.
+ * refused call), a test of its own. A refused call must leave all as it was: so it is refused again, and a
+ * twin of the bench, without that call, must answer alike afterwards.
  */
 public final class BoundariesTest {
     private static final int LEAST = Integer.MIN_VALUE;
@@ -38,6 +38,7 @@ public final class BoundariesTest {
         ChainBench x = maker.make();
         ChainBench twin = maker.make();
         CHECK.dueThrow(call, want, () -> action.on(x));
+        CHECK.dueThrow(call + " again", want, () -> action.on(x));
         String changed = Hand.difference(Hand.everythingAndAfter(x), Hand.everythingAndAfter(twin));
         CHECK.dueText(call + ": what changed by it", changed, "");
     }
