@@ -33,12 +33,22 @@ public final class FaceTest {
         "\\bvar\\b", "\\bpackage\\b",
         "\\bSystem\\.(?!arraycopy)", "\\bMath\\.random", "\\bThread\\b", "\\bhashCode\\b", "String toString\\("};
 
+    /** Calls of a list that rule 4 leaves. */
+    private static final String LIST_CALLS = "add|get|set|remove|size|isEmpty|clear";
+    private static final int MOST_PARAMETERS = 7;
+    private static final int MOST_METHOD_LINES = 60;
+    private static final int MOST_CLASSES = 12;
+    private static final int MOST_FIELDS = 20;
+
     private static final Checks CHECK = new Checks("FaceTest");
 
     public static void main(String[] args) throws IOException {
         face();
         hiddenMembers();
+        sizes();
         sourceText();
+        listCalls();
+        methodLines();
         CHECK.end();
     }
 
@@ -99,8 +109,53 @@ public final class FaceTest {
         CHECK.due(field + " is static and changes", loose, false);
     }
 
+    private static void sizes() {
+        Class<?>[] inside = ChainBench.class.getDeclaredClasses();
+        CHECK.due("at most twelve classes", inside.length + 1 <= MOST_CLASSES, true);
+        dueSmall(ChainBench.class);
+        for (Class<?> each : inside) {
+            dueSmall(each);
+        }
+    }
+
+    private static void dueSmall(Class<?> each) {
+        int fields = 0;
+        for (Field field : each.getDeclaredFields()) {
+            fields += Modifier.isStatic(field.getModifiers()) ? 0 : 1;
+        }
+        CHECK.due(each + " has few fields", fields <= MOST_FIELDS, true);
+        for (Method method : each.getDeclaredMethods()) {
+            CHECK.due(method + " has few parameters", method.getParameterCount() <= MOST_PARAMETERS, true);
+        }
+        for (Constructor<?> constructor : each.getDeclaredConstructors()) {
+            CHECK.due(constructor + " has few parameters", constructor.getParameterCount() <= MOST_PARAMETERS, true);
+        }
+    }
+
+    private static String textWithoutComments() throws IOException {
+        return Files.readString(SOURCE).replaceAll("(?s)/\\*.*?\\*/", "").replaceAll("//[^\n]*", "");
+    }
+
+    private static void listCalls() throws IOException {
+        Matcher calls = Pattern.compile("\\b(devices|nets)\\.(\\w+)\\(").matcher(textWithoutComments());
+        while (calls.find()) {
+            CHECK.due("the call " + calls.group() + " is listed", calls.group(2).matches(LIST_CALLS), true);
+        }
+    }
+
+    /** A method begins and ends at one depth: four blanks in the class, eight in one inside it. */
+    private static void methodLines() throws IOException {
+        Pattern method = Pattern.compile("(?m)^(    (?:    )?)\\S[^=\\n]*\\([^;=]*?\\{\\n((?s).*?)^\\1\\}");
+        Matcher methods = method.matcher(textWithoutComments());
+        while (methods.find()) {
+            long lines = methods.group().lines().count();
+            String first = methods.group().lines().findFirst().orElse("").trim();
+            CHECK.due(first + " is short", lines <= MOST_METHOD_LINES, true);
+        }
+    }
+
     private static void sourceText() throws IOException {
-        String text = Files.readString(SOURCE).replaceAll("(?s)/\\*.*?\\*/", "").replaceAll("//[^\n]*", "");
+        String text = textWithoutComments();
         for (String ruledOut : RULED_OUT) {
             CHECK.due("the program has " + ruledOut, Pattern.compile(ruledOut).matcher(text).find(), false);
         }
